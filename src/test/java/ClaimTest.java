@@ -116,8 +116,11 @@ public final class ClaimTest {
     Check.heading("promise 23, a FIRST from 0");
     CoarseSteps x = bench(4, 0, 1);
     x.start(0, 1);
-    x.run(4, 1);
-    Check.same("began with 1", REFUSED, x.back(4, 0));
+    x.run(2, 1);
+    Check.same("began with 1, though 0 0 can be", REFUSED, x.back(2, 1));
+    x.over(4);
+    x.run(2, 1);
+    Check.same("anew from 0", 1, x.back(2, 1));
     x.over(4);
     x.start(0, 1);
     x.start(0, 0);

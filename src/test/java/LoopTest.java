@@ -8,6 +8,7 @@ public final class LoopTest {
     promise4LoopRefusesDoingNothing();
     promise5TableTakesWhatThereIs();
     promise5TableBeginsAnew();
+    promise5LoopEmptiesAllTables();
     promise6Start();
     promise7First();
     promise7Two();
@@ -114,6 +115,37 @@ public final class LoopTest {
     x.loop(2, 1, 0);
     x.tick(1);
     Check.same("sum(0): loop() makes them all 0", 0, x.sum(0));
+  }
+
+  private static void promise5LoopEmptiesAllTables() {
+    Check.heading("promise 5, all of it");
+    CoarseSteps x = new CoarseSteps();
+    x.loop(2, 4, 0);
+    for (int i = 0; i <= 4; i++) {
+      for (int j = 0; j <= 5; j++) {
+        x.table(i, j, 1);
+      }
+    }
+    x.loop(2, 4, 0);
+    x.start(0, 7);
+    x.start(3, 9);
+    Check.same("tick(5): h and g are 0", 0, x.tick(5));
+    for (int k = 0; k < 4; k++) {
+      Check.same("sum(" + k + "): a and b are 0", 0, x.sum(k));
+    }
+    x.table(4, 4, 1);
+    Check.same("tick(5): g is 1", 1, x.tick(5));
+    for (int k = 0; k < 4; k++) {
+      Check.same("sum(" + k + "): e is 0", 0, x.sum(k));
+    }
+    for (int j = 0; j < 4; j++) {
+      x.loop(2, 4, 0);
+      x.table(4, j, 1);
+      for (int k = 0; k < 4; k++) {
+        x.start(k, k == j ? 1 : 0);
+      }
+      Check.same("tick(0): h(" + j + ") alone", 1, x.tick(0));
+    }
   }
 
   private static CoarseSteps likeFirst() {
@@ -270,6 +302,10 @@ public final class LoopTest {
     for (int due : given) {
       Check.same("tick(0): the third's STEP stays 1", due, x.tick(0));
     }
+    x.over(1);
+    x.start(2, 5);
+    Check.same("tick(0) of three anew", 1, x.tick(0));
+    Check.same("tick(0) of three anew", -1, x.tick(0));
   }
 
   private static void promise7Bounds() {

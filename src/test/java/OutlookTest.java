@@ -180,6 +180,13 @@ public final class OutlookTest {
     Check.same("leaves(0, 27)", 4, x.leaves(0, 27));
     x.loop(0, 0, 0);
     Check.same("leaves(0, 0): SUMS of another LOOP do not count", NOT_TOLD, x.leaves(0, 0));
+    x.loop(2, 4, 0);
+    for (int k = 0; k < 4; k++) {
+      x.table(k, k, 1);
+      x.start(k, 9);
+      Check.same("leaves(0, 9) of four", NOT_TOLD, x.leaves(0, 9));
+      Check.same("leaves(0, 8) of four", 1, x.leaves(0, 8));
+    }
   }
 
   private static void promise16Box() {
@@ -237,6 +244,14 @@ public final class OutlookTest {
     Check.same("one SUM: 0 to 0", 0, x.kept(2, 2));
     x.loop(2, 2, 0);
     Check.same("two SUMS: 0 to 0 for each", 1, x.kept(-5, 5));
+    x.box(0, 0, 1000000);
+    x.box(1, -1000000, 0);
+    Check.same("two wide spans", NOT_TOLD, x.kept(0, 0));
+    x.loop(0, 0, 0);
+    Check.same("one SUM: 0 to 0", 1, x.kept(0, 0));
+    x.box(0, -1000000, 0);
+    x.loop(1, 0, 0);
+    Check.same("two SUMS: 0 to 0", 1, x.kept(0, 0));
   }
 
   private static void promise17Kept() {
@@ -310,6 +325,15 @@ public final class OutlookTest {
     Check.same("(0,3) leads to (3,0)", 0, x.kept(0, 0));
     x.box(1, 1, 2);
     Check.same("(0,1) leads to (1,0)", 0, x.kept(0, 0));
+    x.loop(2, 2, 0);
+    x.table(4, 0, -1);
+    x.table(4, 1, 1);
+    x.table(0, 5, 2);
+    x.box(0, 0, 1);
+    x.box(1, 0, 1);
+    Check.same("(0,1) alone leads to (2,0)", 0, x.kept(0, 0));
+    x.box(1, 0, 0);
+    Check.same("(0,0) and (1,0) do not", 1, x.kept(0, 0));
     x.loop(3, 2, 0);
     x.over(4);
     x.box(0, 0, 3);

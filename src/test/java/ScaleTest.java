@@ -101,6 +101,8 @@ public final class ScaleTest {
     Check.no("n least", x.steps(Integer.MIN_VALUE, 0, 1, 2, 3, 4, 5, 6, 7));
     Check.no("n most", x.steps(Integer.MAX_VALUE, 0, 1, 2, 3, 4, 5, 6, 7));
     Check.no("alike at the end", x.steps(8, 0, 1, 2, 3, 4, 5, 6, 6));
+    Check.no("alike at the beginning", x.steps(3, 1, 1, 2, 0, 0, 0, 0, 0));
+    Check.no("going down at the beginning", x.steps(2, 1, 0, 0, 0, 0, 0, 0, 0));
     Check.no("going down", x.steps(3, 0, 2, 1, 0, 0, 0, 0, 0));
     Check.no("too great", x.steps(2, 0, 101, 0, 0, 0, 0, 0, 0));
     Check.no("too small", x.steps(2, -101, 0, 0, 0, 0, 0, 0, 0));
