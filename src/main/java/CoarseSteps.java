@@ -326,7 +326,7 @@ public final class CoarseSteps {
     /** Which STEP is the one for a number; the least one (0) needs no test: it is for all below. */
     int placeFor(long v) {
       for (int k = count - 1; k > 0; k--) {
-        if (fineAt(k) <= v) {
+        if ((long) values[k] * over <= v) {
           return k;
         }
       }
@@ -441,7 +441,22 @@ public final class CoarseSteps {
 
     /** False, leaving the SUMS as they are, if one would be beyond the bounds. */
     boolean advance(long[] at, int wish) {
-      reckon(at, wish);
+      switch (kind) {
+        case TWO:
+          reckonTwo(at, wish);
+          break;
+        case TABLES:
+          reckonTables(at, wish);
+          break;
+        default:
+          // A FIRST, a WHEEL's too, is a ROW of one.
+          reckonRow(at, wish);
+          break;
+      }
+      return settle(at);
+    }
+
+    private boolean settle(long[] at) {
       for (int k = 0; k < sums; k++) {
         if (!isSum(coming[k])) {
           return false;
@@ -453,22 +468,9 @@ public final class CoarseSteps {
       return true;
     }
 
-    private void reckon(long[] from, int wish) {
-      switch (kind) {
-        case TWO:
-          coming[0] = takeStep(0, wish + 2 * from[0] - from[1]);
-          coming[1] = from[0];
-          break;
-        case TABLES:
-          reckonTables(from, wish);
-          break;
-        case ROW:
-          reckonRow(from, wish);
-          break;
-        default:
-          coming[0] = takeStep(0, from[0] + wish);
-          break;
-      }
+    private void reckonTwo(long[] from, int wish) {
+      coming[0] = takeStep(0, wish + 2 * from[0] - from[1]);
+      coming[1] = from[0];
     }
 
     private void reckonTables(long[] from, int wish) {
