@@ -10,6 +10,11 @@ final class Check {
     heading = text;
   }
 
+  /** What follows would fail if these words of a promise, or of the terms it uses, were broken. */
+  static void sentence(int promise, String words) {
+    heading = "promise " + promise + ", \"" + words + "\"";
+  }
+
   static void same(String call, long due, long got) {
     if (due == got) {
       passed++;

@@ -3,8 +3,9 @@
  * from a fixed seed, so that a row that fails once fails again.
  */
 public final class ModelTest {
-  private static final int RUNS = 400;
-  private static final int CALLS = 512;
+  private static final int RUNS = 2500;
+  /** An object is used for 512 calls, and 16 of them are more than one turn asks. */
+  private static final int LAST_TURN_FROM = 512 - 16;
   private static final long MOST = 1000000000000L;
 
   private static final int[] OVERS = {1, 2, 3, 4, 5, 7, 10, 16, 60, 100, 997, 4096, 10000};
@@ -18,6 +19,7 @@ public final class ModelTest {
   };
 
   private long seed;
+  private int asked;
   private CoarseSteps x;
   private SlowModel model;
 
@@ -33,10 +35,16 @@ public final class ModelTest {
     seed = run * 7919L;
     x = new CoarseSteps();
     model = new SlowModel();
-    for (int call = 1; call <= CALLS && !Check.hasFailed(); call++) {
-      Check.heading("run " + run + ", call " + call);
-      callOne();
+    asked = 0;
+    while (asked <= LAST_TURN_FROM && !Check.hasFailed()) {
+      Check.heading("run " + run + ", call " + (asked + 1) + " or later");
+      callSome();
     }
+  }
+
+  private void same(String call, long due, long got) {
+    asked++;
+    Check.same(call, due, got);
   }
 
   private int draw(int below) {
@@ -53,7 +61,7 @@ public final class ModelTest {
   }
 
   private int wish() {
-    int d = x.about(0);
+    int d = model.about(0);
     switch (draw(6)) {
       case 0:
         return edgeOr(between(-3 * d, 3 * d));
@@ -68,7 +76,7 @@ public final class ModelTest {
     return draw(3) == 0 ? FAR[draw(FAR.length)] : between(-50, 50);
   }
 
-  private void callOne() {
+  private void callSome() {
     int which = draw(100);
     if (which < 5) {
       change();
@@ -89,7 +97,7 @@ public final class ModelTest {
     switch (draw(4)) {
       case 0:
         int d = edgeOr(OVERS[draw(OVERS.length)]);
-        Check.same("over(" + d + ")", number(model.over(d)), number(x.over(d)));
+        same("over(" + d + ")", number(model.over(d)), number(x.over(d)));
         break;
       case 1:
         changeSteps();
@@ -99,8 +107,8 @@ public final class ModelTest {
         int n = draw(10) == 0 ? between(-1, 17) : usualN(kind);
         int rule = draw(10) == 0 ? between(-1, 2) : kind == 4 ? draw(2) : 0;
         String call = "loop(" + kind + ", " + n + ", " + rule + ")";
-        Check.same(call, number(model.loop(kind, n, rule)), number(x.loop(kind, n, rule)));
-        if (x.about(2) == 2) {
+        same(call, number(model.loop(kind, n, rule)), number(x.loop(kind, n, rule)));
+        if (model.about(2) == 2) {
           fillTables();
         }
         break;
@@ -120,7 +128,7 @@ public final class ModelTest {
     int n = draw(8) == 0 ? between(0, 10) : between(2, 8);
     boolean due = model.steps(n, s);
     boolean got = x.steps(n, s[0], s[1], s[2], s[3], s[4], s[5], s[6], s[7]);
-    Check.same("steps(" + n + ", " + java.util.Arrays.toString(s) + ")", number(due), number(got));
+    same("steps(" + n + ", " + java.util.Arrays.toString(s) + ")", number(due), number(got));
   }
 
   private void fillTables() {
@@ -135,7 +143,7 @@ public final class ModelTest {
     int j = between(-1, 6);
     int v = draw(10) == 0 ? between(-11, 11) : between(-1, 1);
     String call = "table(" + i + ", " + j + ", " + v + ")";
-    Check.same(call, number(model.table(i, j, v)), number(x.table(i, j, v)));
+    same(call, number(model.table(i, j, v)), number(x.table(i, j, v)));
   }
 
   private void move() {
@@ -143,12 +151,12 @@ public final class ModelTest {
     switch (draw(8)) {
       case 0:
         int n = edgeOr(between(0, 300));
-        Check.same("run(" + n + ", " + w + ")", model.run(n, w), x.run(n, w));
+        same("run(" + n + ", " + w + ")", model.run(n, w), x.run(n, w));
         break;
       case 1:
         int sum = between(-1, 4);
         long v = far();
-        Check.same("start(" + sum + ", " + v + ")", number(model.start(sum, v)),
+        same("start(" + sum + ", " + v + ")", number(model.start(sum, v)),
             number(x.start(sum, v)));
         break;
       case 2:
@@ -157,38 +165,38 @@ public final class ModelTest {
         }
         break;
       default:
-        Check.same("tick(" + w + ")", model.tick(w), x.tick(w));
+        same("tick(" + w + ")", model.tick(w), x.tick(w));
         break;
     }
     for (int k = -1; k <= 4; k++) {
-      Check.same("sum(" + k + ")", model.sum(k), x.sum(k));
+      same("sum(" + k + ")", model.sum(k), x.sum(k));
     }
   }
 
   private void look() {
     int k = edgeOr(between(-1, 20));
     int what = between(-1, 9);
-    Check.same("was(" + k + ", 0)", model.was(k, 0), x.was(k, 0));
-    Check.same("was(" + k + ", 1)", model.was(k, 1), x.was(k, 1));
-    Check.same("was(" + k + ", " + what + ")", model.was(k, what), x.was(k, what));
-    Check.same("behind(" + k + ")", model.behind(k), x.behind(k));
-    Check.same("missed(" + k + ")", model.missed(k), x.missed(k));
-    Check.same("even(" + k + ")", model.even(k), x.even(k));
-    Check.same("about(" + what + ")", model.about(what), x.about(what));
-    Check.same("step(" + what + ")", model.step(what), x.step(what));
-    Check.same("part(" + k + ", 0)", model.part(k, 0), x.part(k, 0));
-    Check.same("part(" + k + ", 1)", model.part(k, 1), x.part(k, 1));
-    Check.same("part(" + k + ", " + what + ")", model.part(k, what), x.part(k, what));
-    Check.same("spread()", model.spread(), x.spread());
-    Check.same("read()", model.read(), x.read());
+    same("was(" + k + ", 0)", model.was(k, 0), x.was(k, 0));
+    same("was(" + k + ", 1)", model.was(k, 1), x.was(k, 1));
+    same("was(" + k + ", " + what + ")", model.was(k, what), x.was(k, what));
+    same("behind(" + k + ")", model.behind(k), x.behind(k));
+    same("missed(" + k + ")", model.missed(k), x.missed(k));
+    same("even(" + k + ")", model.even(k), x.even(k));
+    same("about(" + what + ")", model.about(what), x.about(what));
+    same("step(" + what + ")", model.step(what), x.step(what));
+    same("part(" + k + ", 0)", model.part(k, 0), x.part(k, 0));
+    same("part(" + k + ", 1)", model.part(k, 1), x.part(k, 1));
+    same("part(" + k + ", " + what + ")", model.part(k, what), x.part(k, what));
+    same("spread()", model.spread(), x.spread());
+    same("read()", model.read(), x.read());
   }
 
   private void lookFar() {
     int w = wish();
     long bound = draw(4) == 0 ? FAR[draw(FAR.length)] : between(-1, 5000);
-    Check.same("ring(" + w + ")", model.ring(w), x.ring(w));
-    Check.same("tail()", model.tail(), x.tail());
-    Check.same("leaves(" + w + ", " + bound + ")", model.leaves(w, bound), x.leaves(w, bound));
+    same("ring(" + w + ")", model.ring(w), x.ring(w));
+    same("tail()", model.tail(), x.tail());
+    same("leaves(" + w + ", " + bound + ")", model.leaves(w, bound), x.leaves(w, bound));
   }
 
   private void lookAtBox() {
@@ -197,41 +205,41 @@ public final class ModelTest {
     if (draw(2) == 0) {
       int sum = between(-1, 4);
       long least = draw(20) == 0 ? far() : between(-3, 3);
-      long most = draw(20) == 0 ? far() : least + between(-1, Math.min(12, x.about(0) + 1));
+      long most = draw(20) == 0 ? far() : least + between(-1, Math.min(12, model.about(0) + 1));
       String call = "box(" + sum + ", " + least + ", " + most + ")";
-      Check.same(call, number(model.box(sum, least, most)), number(x.box(sum, least, most)));
+      same(call, number(model.box(sum, least, most)), number(x.box(sum, least, most)));
     }
-    Check.same("kept(" + w0 + ", " + w1 + ")", model.kept(w0, w1), x.kept(w0, w1));
+    same("kept(" + w0 + ", " + w1 + ")", model.kept(w0, w1), x.kept(w0, w1));
   }
 
   private void lookAtMore() {
     int w = wish();
     int k = edgeOr(between(0, 300));
-    Check.same("word(" + w + ", " + k + ")", model.word(w, k), x.word(w, k));
+    same("word(" + w + ", " + k + ")", model.word(w, k), x.word(w, k));
     switch (draw(12)) {
       case 0:
-        Check.same("clear()", model.clear(), x.clear());
+        same("clear()", model.clear(), x.clear());
         break;
       case 1:
         int n = edgeOr(between(1, 64));
         int w1 = w + (draw(10) == 0 ? between(1999, 2001) : draw(60));
         String call = "range(" + n + ", " + w + ", " + w1 + ")";
-        Check.same(call, model.range(n, w, w1), x.range(n, w, w1));
+        same(call, model.range(n, w, w1), x.range(n, w, w1));
         break;
       case 2:
         back();
         break;
       default:
         int v = edgeOr(between(-1000, 1000));
-        Check.same("weight(" + v + ")", model.weight(v), x.weight(v));
+        same("weight(" + v + ")", model.weight(v), x.weight(v));
         break;
     }
   }
 
   private void back() {
-    int n = draw(3) == 0 ? edgeOr(1) : between(0, x.about(6));
+    int n = draw(3) == 0 ? edgeOr(1) : between(0, model.about(6));
     int what = draw(8) == 0 ? between(-1, 2) : draw(2);
-    Check.same("back(" + n + ", " + what + ")", model.back(n, what), x.back(n, what));
+    same("back(" + n + ", " + what + ")", model.back(n, what), x.back(n, what));
   }
 
   private static int number(boolean yes) {
