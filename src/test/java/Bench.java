@@ -1,6 +1,8 @@
 import java.util.Arrays;
+import java.util.function.Consumer;
+import java.util.function.Supplier;
 
-/** Objects for the tests to begin with, and a look at all that two of them tell. */
+/** Objects for the tests to begin with, and a look at what calls change in them. */
 final class Bench {
   static final long MOST_SUM = 1000000000000L;
   static final int MOST_WISH = 1000000;
@@ -13,9 +15,10 @@ final class Bench {
     MOST_WISH + 1, -MOST_WISH - 1, Integer.MAX_VALUE, Integer.MIN_VALUE,
   };
   private static final int[][] KINDS = {
-    {0, 0, 0}, {1, 0, 0}, {2, 1, 0}, {2, 4, 0}, {3, 2, 0}, {3, 3, 0}, {4, 2, 0}, {4, 16, 1},
+    {0, 0, 0}, {1, 0, 0}, {2, 1, 0}, {2, 4, 0}, {3, 2, 0}, {3, 3, 0}, {4, 2, 0}, {4, 7, 0},
+    {4, 16, 1},
   };
-  private static final int[] LATEST = {0, 1, 2, 3, 4, 254, 255, 256};
+  private static final Looks LOOKS = new Looks();
 
   private Bench() {}
 
@@ -23,7 +26,7 @@ final class Bench {
     return BEYOND_WISHES.clone();
   }
 
-  /** A kind, n and rule for each sort of LOOP, at the edges of n. */
+  /** A kind, n and rule for each sort of LOOP, with the edges of n. */
   static int[][] kinds() {
     int[][] all = new int[KINDS.length][];
     for (int k = 0; k < all.length; k++) {
@@ -64,57 +67,76 @@ final class Bench {
     }
   }
 
-  /** One that has something of everything that a LOOP of this sort can have. */
-  static CoarseSteps busy(int kind, int n, int rule) {
+  /** One that has just begun, with as little as this sort of LOOP needs to go on. */
+  private static CoarseSteps begun(int kind, int n, int rule) {
     CoarseSteps x = over(4, -1, 0, 1, 2, 5);
     x.loop(kind, n, rule);
+    fillTables(x);
+    return x;
+  }
+
+  /** One that has something of everything that a LOOP of this sort can have. */
+  static CoarseSteps busy(int kind, int n, int rule) {
+    CoarseSteps x = begun(kind, n, rule);
+    for (int k = 0; k < 4; k++) {
+      x.start(k, 5 - 3 * k);
+      x.box(k, -k, 3);
+    }
+    x.weight(3);
+    x.weight(-5);
+    x.ring(1);
+    ticks(x, 3, 6, -2, 9);
+    return x;
+  }
+
+  /** The tables of busy(); nothing for another KIND. */
+  static void fillTables(CoarseSteps x) {
     for (int i = 0; i <= 4; i++) {
       for (int j = 0; j <= 5; j++) {
         x.table(i, j, 1 - (i + 2 * j) % 3);
       }
     }
-    for (int k = 0; k < 4; k++) {
-      x.start(k, 5 - 3 * k);
-      x.box(k, -k, k + 1);
+  }
+
+  /** Behind calls that change nothing, each sort of LOOP is and goes on as one without them. */
+  static void unchangedBy(Consumer<CoarseSteps> calls) {
+    sameBehind(x -> {}, calls);
+  }
+
+  /** The same of LOOPS that have just begun: what busy() calls itself is seen here alone. */
+  static void unchangedAtFirstBy(Consumer<CoarseSteps> calls) {
+    for (int[] kind : KINDS) {
+      sameBehind("KIND " + kind[0], () -> begun(kind[0], kind[1], kind[2]), x -> {}, calls);
     }
-    x.weight(3);
-    x.weight(-5);
-    ticks(x, 3, 6, -2, 9);
+  }
+
+  /** Each sort of LOOP is and goes on the same behind the one calls and the others. */
+  static void sameBehind(Consumer<CoarseSteps> due, Consumer<CoarseSteps> got) {
+    for (int[] kind : KINDS) {
+      sameBehind("KIND " + kind[0], () -> busy(kind[0], kind[1], kind[2]), due, got);
+    }
+    sameBehind("a FIRST from 0", Bench::firstFromZero, due, got);
+  }
+
+  static void sameBehind(String why, Supplier<CoarseSteps> from, Consumer<CoarseSteps> due,
+      Consumer<CoarseSteps> got) {
+    LOOKS.same(why, () -> behind(from, due), () -> behind(from, got));
+  }
+
+  private static CoarseSteps behind(Supplier<CoarseSteps> from, Consumer<CoarseSteps> calls) {
+    CoarseSteps x = from.get();
+    calls.accept(x);
     return x;
   }
 
-  /** All that they tell now, and behind five TICKS more, is the same: so is what is held inside. */
-  static void alike(String why, CoarseSteps due, CoarseSteps got) {
-    lookAlike(why, due, got);
-    for (int w : new int[] {3, -2, 11, 0, 1}) {
-      Check.same(why + ": then tick(" + w + ")", due.tick(w), got.tick(w));
-    }
-    lookAlike(why + ": five TICKS later", due, got);
-  }
-
-  private static void lookAlike(String why, CoarseSteps due, CoarseSteps got) {
-    Check.same(why + ": tail()", due.tail(), got.tail());
-    Check.same(why + ": spread()", due.spread(), got.spread());
-    Check.same(why + ": read()", due.read(), got.read());
-    for (int k = 0; k <= 8; k++) {
-      Check.same(why + ": about(" + k + ")", due.about(k), got.about(k));
-      Check.same(why + ": step(" + k + ")", due.step(k), got.step(k));
-    }
-    for (int k = 0; k <= 4; k++) {
-      Check.same(why + ": sum(" + k + ")", due.sum(k), got.sum(k));
-    }
-    for (int k : LATEST) {
-      Check.same(why + ": was(" + k + ", 0)", due.was(k, 0), got.was(k, 0));
-      Check.same(why + ": was(" + k + ", 1)", due.was(k, 1), got.was(k, 1));
-      Check.same(why + ": behind(" + k + ")", due.behind(k), got.behind(k));
-    }
-    for (int k = 0; k < due.about(4); k++) {
-      Check.same(why + ": part(" + k + ", 0)", due.part(k, 0), got.part(k, 0));
-      Check.same(why + ": part(" + k + ", 1)", due.part(k, 1), got.part(k, 1));
-    }
-    Check.same(why + ": back(1, 0)", due.back(1, 0), got.back(1, 0));
-    Check.same(why + ": kept(0, 1)", due.kept(0, 1), got.kept(0, 1));
-    Check.same(why + ": leaves(1, 30)", due.leaves(1, 30), got.leaves(1, 30));
+  /** busy() starts its SUMS with others than 0, which back() refuses. */
+  private static CoarseSteps firstFromZero() {
+    CoarseSteps x = over(4, -1, 0, 1, 2, 5);
+    x.box(0, 0, 3);
+    x.weight(3);
+    x.weight(-5);
+    ticks(x, 3, 6, 5, 9);
+    return x;
   }
 
   /** A LOOP that has just begun, and goes on as one that never did a TICK. */

@@ -16,7 +16,11 @@ final class Check {
   }
 
   static void same(String call, long due, long got) {
-    if (due == got) {
+    same(call, String.valueOf(due), String.valueOf(got));
+  }
+
+  static void same(String call, String due, String got) {
+    if (due.equals(got)) {
       passed++;
       return;
     }

@@ -7,6 +7,7 @@ public final class Promise02Test {
     loopBeginsAnew();
     theSameOverBeginsAnewToo();
     allElseStays();
+    nothingElseChanges();
     Check.end();
   }
 
@@ -34,14 +35,8 @@ public final class Promise02Test {
 
   private static void refusedDoesNothing() {
     Check.sentence(2, "doing nothing");
-    for (int[] kind : Bench.kinds()) {
-      for (int d : new int[] {0, 10001}) {
-        CoarseSteps x = Bench.busy(kind[0], kind[1], kind[2]);
-        x.over(d);
-        Bench.alike("over(" + d + "), KIND " + kind[0],
-            Bench.busy(kind[0], kind[1], kind[2]), x);
-      }
-    }
+    Bench.unchangedBy(x -> x.over(0));
+    Bench.unchangedBy(x -> x.over(10001));
   }
 
   private static void loopBeginsAnew() {
@@ -60,12 +55,13 @@ public final class Promise02Test {
       CoarseSteps x = Bench.busy(kind[0], kind[1], kind[2]);
       Check.yes("over(4)", x.over(4));
       Bench.begunAnew("KIND " + kind[0], x);
-      CoarseSteps once = Bench.busy(kind[0], kind[1], kind[2]);
-      once.over(4);
-      once.run(20, 3);
-      once.over(4);
-      Bench.alike("STEPS of TICKS before do not count", x, once);
     }
+    // The STEPS of TICKS before do not count any more.
+    Bench.sameBehind(x -> x.over(4), x -> {
+      x.over(4);
+      x.run(20, 3);
+      x.over(4);
+    });
   }
 
   private static void allElseStays() {
@@ -98,5 +94,14 @@ public final class Promise02Test {
     x.over(2);
     Check.same("tick(1): g", 1, x.tick(1));
     Check.same("sum(0): b", 3, x.sum(0));
+  }
+
+  private static void nothingElseChanges() {
+    Check.sentence(2, "D; the LOOP begins anew: nothing else, as by steps()");
+    Bench.sameBehind(x -> Bench.tell(x, -1, 0, 1, 2, 5), x -> x.over(4));
+    Bench.sameBehind(x -> Bench.tell(x, -1, 0, 1, 2, 5), x -> {
+      x.over(7);
+      x.over(4);
+    });
   }
 }

@@ -11,6 +11,7 @@ public final class Promise03Test {
     refusedDoesNothing();
     loopBeginsAnew();
     fewerForgetTheOthers();
+    nothingElseChanges();
     Check.end();
   }
 
@@ -121,14 +122,12 @@ public final class Promise03Test {
 
   private static void refusedDoesNothing() {
     Check.sentence(3, "doing nothing");
-    for (int[] kind : Bench.kinds()) {
-      CoarseSteps x = Bench.busy(kind[0], kind[1], kind[2]);
+    Bench.unchangedBy(x -> {
       x.steps(1, 7, 8, 9, 10, 11, 12, 13, 14);
       x.steps(9, 7, 8, 9, 10, 11, 12, 13, 14);
       x.steps(8, 7, 8, 9, 10, 11, 12, 13, 13);
       x.steps(8, 7, 8, 9, 10, 11, 12, 13, 101);
-      Bench.alike("KIND " + kind[0], Bench.busy(kind[0], kind[1], kind[2]), x);
-    }
+    });
   }
 
   private static void loopBeginsAnew() {
@@ -140,10 +139,8 @@ public final class Promise03Test {
       Check.same("about(0), D stays", 4, x.about(0));
       Check.same("about(2), KIND stays", kind[0], x.about(2));
       Check.same("about(7), weights stay", 2, x.about(7));
-      CoarseSteps once = Bench.busy(kind[0], kind[1], kind[2]);
-      once.over(4);
-      Bench.alike("as by over()", once, x);
     }
+    Bench.sameBehind(x -> x.over(4), x -> Bench.tell(x, -1, 0, 1, 2, 5));
   }
 
   private static void fewerForgetTheOthers() {
@@ -153,5 +150,13 @@ public final class Promise03Test {
     Bench.tell(x, -2, -1);
     stepsAre(x, -2, -1);
     Check.same("tick(7): 7 is no STEP now", -1, x.tick(7));
+  }
+
+  private static void nothingElseChanges() {
+    Check.sentence(3, "STEPS are these; the LOOP begins anew: nothing else, as by over()");
+    Bench.sameBehind(x -> x.over(4), x -> {
+      Bench.tell(x, 7, 8);
+      Bench.tell(x, -1, 0, 1, 2, 5);
+    });
   }
 }

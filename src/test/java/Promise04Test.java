@@ -15,6 +15,7 @@ public final class Promise04Test {
     aLoopBegins();
     tablesAreAllZero();
     allElseStays();
+    nothingElseChanges();
     Check.end();
   }
 
@@ -128,13 +129,11 @@ public final class Promise04Test {
     Check.sentence(4, "false, doing nothing");
     int[][] wrong = {{5, 0, 0}, {0, 1, 0}, {1, 0, 1}, {2, 5, 0}, {2, 0, 0}, {3, 4, 0}, {4, 17, 0},
       {4, 4, 2}};
-    for (int[] kind : Bench.kinds()) {
-      CoarseSteps x = Bench.busy(kind[0], kind[1], kind[2]);
+    Bench.unchangedBy(x -> {
       for (int[] loop : wrong) {
         Check.no("loop(" + loop[0] + ", ..)", x.loop(loop[0], loop[1], loop[2]));
       }
-      Bench.alike("KIND " + kind[0], Bench.busy(kind[0], kind[1], kind[2]), x);
-    }
+    });
   }
 
   private static void aLoopBegins() {
@@ -199,5 +198,18 @@ public final class Promise04Test {
     Check.same("about(1)", 5, x.about(1));
     Check.same("about(7)", 2, x.about(7));
     Check.same("tail()", 1, x.tail());
+  }
+
+  private static void nothingElseChanges() {
+    Check.sentence(4, "A LOOP of a KIND begins: nothing else changes, as by over()");
+    for (int[] kind : Bench.kinds()) {
+      Bench.sameBehind("KIND " + kind[0], () -> Bench.busy(kind[0], kind[1], kind[2]), x -> {
+        x.over(4);
+        Bench.fillTables(x);
+      }, x -> {
+        x.loop(kind[0], kind[1], kind[2]);
+        Bench.fillTables(x);
+      });
+    }
   }
 }

@@ -78,10 +78,10 @@ public final class Promise05Test {
     Check.sentence(5, "Of TABLES");
     int[][] others = {{0, 0}, {1, 0}, {3, 2}, {3, 3}, {4, 4}};
     for (int[] other : others) {
-      CoarseSteps x = Bench.busy(other[0], other[1], 0);
-      Check.no("table(0, 0, 1) of KIND " + other[0], x.table(0, 0, 1));
-      Check.no("table(4, 4, 1) of KIND " + other[0], x.table(4, 4, 1));
-      Bench.alike("KIND " + other[0], Bench.busy(other[0], other[1], 0), x);
+      Bench.sameBehind("KIND " + other[0], () -> Bench.busy(other[0], other[1], 0), x -> {}, x -> {
+        Check.no("table(0, 0, 1) of KIND " + other[0], x.table(0, 0, 1));
+        Check.no("table(4, 4, 1) of KIND " + other[0], x.table(4, 4, 1));
+      });
     }
     CoarseSteps x = Bench.loop(2, 2, 0);
     x.loop(0, 0, 0);
@@ -93,17 +93,21 @@ public final class Promise05Test {
     int[][] wrong = {
       {0, 0, 11}, {4, 4, -11}, {4, 5, 2}, {0, 6, 2}, {-1, 0, 2}, {0, -1, 2}, {5, 0, 2},
     };
-    for (int n = 1; n <= 4; n++) {
-      CoarseSteps x = Bench.busy(2, n, 0);
-      for (int[] entry : wrong) {
-        x.table(entry[0], entry[1], entry[2]);
-      }
-      for (int k = n; k < 4; k++) {
-        x.table(k, 0, 2);
-        x.table(0, k, 2);
-        x.table(4, k, 2);
-      }
-      Bench.alike(n + " SUMS", Bench.busy(2, n, 0), x);
+    for (int n : new int[] {1, 2, 3, 4}) {
+      Bench.sameBehind(n + " SUMS", () -> Bench.busy(2, n, 0), x -> {}, x -> {
+        for (int[] entry : wrong) {
+          x.table(entry[0], entry[1], entry[2]);
+        }
+        tellBeyond(x, n);
+      });
+    }
+  }
+
+  private static void tellBeyond(CoarseSteps x, int sums) {
+    for (int k = sums; k < 4; k++) {
+      x.table(k, 0, 2);
+      x.table(0, k, 2);
+      x.table(4, k, 2);
     }
   }
 
@@ -114,11 +118,11 @@ public final class Promise05Test {
       CoarseSteps x = Bench.busy(2, 2, 0);
       int i = place[0];
       int j = place[1];
-      Check.yes("as it was", x.table(i, j, 1 - (i + 2 * j) % 3));
+      int asItWas = 1 - (i + 2 * j) % 3;
+      Check.yes("as it was", x.table(i, j, asItWas));
       Bench.begunAnew("table(" + i + ", " + j + ", ..)", x);
-      CoarseSteps once = Bench.busy(2, 2, 0);
-      once.over(4);
-      Bench.alike("as by over()", once, x);
+      Bench.sameBehind("as by over()", () -> Bench.busy(2, 2, 0), y -> y.over(4),
+          y -> y.table(i, j, asItWas));
     }
   }
 

@@ -12,6 +12,7 @@ public final class Promise06Test {
     refusedDoesNothing();
     aTickGoesOnFromIt();
     againBeforeTicks();
+    nothingElseChanges();
     Check.end();
   }
 
@@ -103,14 +104,12 @@ public final class Promise06Test {
 
   private static void refusedDoesNothing() {
     Check.sentence(6, "doing nothing");
-    for (int[] kind : Bench.kinds()) {
-      CoarseSteps x = Bench.busy(kind[0], kind[1], kind[2]);
+    Bench.unchangedBy(x -> {
       x.start(0, 0);
       x.start(0, 7);
       x.start(-1, 7);
       x.start(x.about(3), 7);
-      Bench.alike("KIND " + kind[0], Bench.busy(kind[0], kind[1], kind[2]), x);
-    }
+    });
     CoarseSteps x = new CoarseSteps();
     x.start(0, MOST + 1);
     x.start(1, 5);
@@ -134,5 +133,22 @@ public final class Promise06Test {
     x.start(0, 5);
     x.start(0, -8);
     Check.same("sum(0)", -8, x.sum(0));
+  }
+
+  private static void nothingElseChanges() {
+    Check.sentence(6, "A SUM is this number: nothing else changes");
+    Bench.unchangedAtFirstBy(Promise06Test::startAndTakeBack);
+    Bench.sameBehind(x -> x.over(4), x -> {
+      x.over(4);
+      startAndTakeBack(x);
+    });
+  }
+
+  private static void startAndTakeBack(CoarseSteps x) {
+    for (int k = 0; k < x.about(3); k++) {
+      x.start(k, 7);
+      x.start(k, -9);
+      x.start(k, 0);
+    }
   }
 }

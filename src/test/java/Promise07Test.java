@@ -24,6 +24,8 @@ public final class Promise07Test {
     boundsOfTables();
     boundsOfARow();
     boundsOfAWheel();
+    the512thCall();
+    nothingElseChanges();
     Check.end();
   }
 
@@ -80,27 +82,24 @@ public final class Promise07Test {
 
   private static void beyondTheWishes() {
     Check.sentence(7, "REFUSED, doing nothing, if there is no such wish");
-    for (int[] kind : Bench.kinds()) {
-      CoarseSteps x = Bench.busy(kind[0], kind[1], kind[2]);
+    Bench.unchangedBy(x -> {
       for (int w : Bench.beyondWishes()) {
         Check.same("tick(" + w + ")", REFUSED, x.tick(w));
       }
-      Bench.alike("KIND " + kind[0], Bench.busy(kind[0], kind[1], kind[2]), x);
-    }
+    });
   }
 
   private static void notDoneDoesNothing() {
     Check.sentence(7, "REFUSED, doing nothing, if it is not done");
     int[][] kinds = {{0, 0, 0}, {1, 0, 0}, {3, 2, 0}, {3, 3, 0}, {4, 3, 0}, {4, 3, 1}};
     for (int[] kind : kinds) {
-      CoarseSteps x = nearTheBound(kind);
-      Check.same("tick(1000000), KIND " + kind[0], REFUSED, x.tick(1000000));
-      Check.same("tick(999999), KIND " + kind[0], REFUSED, x.tick(999999));
-      Bench.alike("KIND " + kind[0], nearTheBound(kind), x);
+      Bench.sameBehind("KIND " + kind[0], () -> nearTheBound(kind), x -> {}, x -> {
+        Check.same("tick(1000000), KIND " + kind[0], REFUSED, x.tick(1000000));
+        Check.same("tick(999999), KIND " + kind[0], REFUSED, x.tick(999999));
+      });
     }
-    CoarseSteps x = tablesNearTheBound();
-    Check.same("tick(1000000), TABLES", REFUSED, x.tick(1000000));
-    Bench.alike("TABLES", tablesNearTheBound(), x);
+    Bench.sameBehind("TABLES", Promise07Test::tablesNearTheBound, x -> {},
+        x -> Check.same("tick(1000000), TABLES", REFUSED, x.tick(1000000)));
   }
 
   private static CoarseSteps nearTheBound(int[] kind) {
@@ -393,5 +392,29 @@ public final class Promise07Test {
     Check.same("part(0, 0)", 1, x.part(0, 0));
     Check.same("part(0, 1)", 1, x.part(0, 1));
     Check.same("part(1, 1)", 0, x.part(1, 1));
+  }
+
+  private static void the512thCall() {
+    Check.sentence(7, "at most 512 calls after it has been made: the last of them");
+    CoarseSteps x = Bench.over(511);
+    for (int k = 1; k <= 510; k++) {
+      Check.same("tick(1)", 0, x.tick(1));
+    }
+    Check.same("tick(1), the 512th call", 1, x.tick(1));
+  }
+
+  private static void nothingElseChanges() {
+    Check.sentence(7, "makes a step, and new SUMS: nothing that outlives the LOOP");
+    Bench.sameBehind(x -> x.over(4), x -> {
+      Bench.ticks(x, 3, -2, 11);
+      x.over(4);
+    });
+    CoarseSteps x = Bench.over(4);
+    x.box(0, 0, 3);
+    x.weight(9);
+    x.tick(4);
+    Check.same("kept(0, 4): the BOX", 1, x.kept(0, 4));
+    Check.same("kept(0, 5): the BOX", 0, x.kept(0, 5));
+    Check.same("read(): the FILTER", 9, x.read());
   }
 }

@@ -16,11 +16,9 @@ public final class Promise08Test {
 
   private static void noneAtAll() {
     Check.sentence(8, "n TICKS (0 .. 10000): none");
-    for (int[] kind : Bench.kinds()) {
-      CoarseSteps x = Bench.busy(kind[0], kind[1], kind[2]);
+    Bench.unchangedBy(x -> {
       Check.same("run(0, 3)", 0, x.run(0, 3));
-      Bench.alike("KIND " + kind[0], Bench.busy(kind[0], kind[1], kind[2]), x);
-    }
+    });
   }
 
   private static void theMost() {
@@ -38,25 +36,21 @@ public final class Promise08Test {
 
   private static void tooFewAndTooMany() {
     Check.sentence(8, "NONE, doing nothing, for another n");
-    for (int[] kind : Bench.kinds()) {
-      CoarseSteps x = Bench.busy(kind[0], kind[1], kind[2]);
+    Bench.unchangedBy(x -> {
       for (int n : new int[] {-1, 10001, Integer.MAX_VALUE, Integer.MIN_VALUE}) {
         Check.same("run(" + n + ", 1)", Bench.NONE, x.run(n, 1));
       }
-      Bench.alike("KIND " + kind[0], Bench.busy(kind[0], kind[1], kind[2]), x);
-    }
+    });
   }
 
   private static void anotherWish() {
     Check.sentence(8, "NONE, doing nothing, for another wish");
-    for (int[] kind : Bench.kinds()) {
-      CoarseSteps x = Bench.busy(kind[0], kind[1], kind[2]);
+    Bench.unchangedBy(x -> {
       for (int w : Bench.beyondWishes()) {
         Check.same("run(2, " + w + ")", Bench.NONE, x.run(2, w));
         Check.same("run(0, " + w + ")", Bench.NONE, x.run(0, w));
       }
-      Bench.alike("KIND " + kind[0], Bench.busy(kind[0], kind[1], kind[2]), x);
-    }
+    });
   }
 
   private static void leastAndGreatestWish() {
@@ -97,12 +91,6 @@ public final class Promise08Test {
 
   private static void asManyTicks() {
     Check.sentence(8, "n TICKS by one wish");
-    for (int[] kind : Bench.kinds()) {
-      CoarseSteps x = Bench.busy(kind[0], kind[1], kind[2]);
-      CoarseSteps y = Bench.busy(kind[0], kind[1], kind[2]);
-      Check.same("run(3, 2)", 3, x.run(3, 2));
-      Bench.ticks(y, 2, 2, 2);
-      Bench.alike("KIND " + kind[0], y, x);
-    }
+    Bench.sameBehind(x -> Bench.ticks(x, 2, 2, 2), x -> Check.same("run(3, 2)", 3, x.run(3, 2)));
   }
 }

@@ -5,6 +5,7 @@ public final class Promise09Test {
     noneSuch();
     sumsOfAnEarlierLoop();
     leastAndGreatest();
+    nothingChanges();
     Check.end();
   }
 
@@ -58,5 +59,14 @@ public final class Promise09Test {
     x.start(1, -Bench.MOST_SUM);
     Check.same("sum(0)", Bench.MOST_SUM, x.sum(0));
     Check.same("sum(1)", -Bench.MOST_SUM, x.sum(1));
+  }
+
+  private static void nothingChanges() {
+    Check.sentence(9, "nothing is changed by it");
+    Bench.unchangedBy(x -> {
+      x.sum(0);
+      x.sum(3);
+      x.sum(-1);
+    });
   }
 }

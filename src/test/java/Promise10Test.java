@@ -12,6 +12,7 @@ public final class Promise10Test {
     noneSuch();
     refusedTicksAreNotKept();
     anewNoneAreKept();
+    nothingChanges();
     Check.end();
   }
 
@@ -124,5 +125,16 @@ public final class Promise10Test {
     x.tick(4);
     Check.same("was(0, 1)", 4, x.was(0, 1));
     Check.same("was(1, 1)", REFUSED, x.was(1, 1));
+  }
+
+  private static void nothingChanges() {
+    Check.sentence(10, "nothing is changed by it");
+    Bench.unchangedBy(x -> {
+      x.was(0, 0);
+      x.was(3, 1);
+      x.was(4, 1);
+      x.was(0, 2);
+      x.was(-1, 0);
+    });
   }
 }

@@ -9,6 +9,7 @@ public final class Promise11Test {
     noneSuch();
     refusedTicksAreNotKept();
     leastAndGreatest();
+    nothingChanges();
     Check.end();
   }
 
@@ -101,5 +102,14 @@ public final class Promise11Test {
     x = Bench.firstFrom(1, -Bench.MOST_SUM);
     x.tick(0);
     Check.same("behind(0)", -Bench.MOST_SUM, x.behind(0));
+  }
+
+  private static void nothingChanges() {
+    Check.sentence(11, "nothing is changed by it");
+    Bench.unchangedBy(x -> {
+      x.behind(0);
+      x.behind(3);
+      x.behind(256);
+    });
   }
 }

@@ -8,6 +8,7 @@ public final class Promise12Test {
     soManyAreNotKept();
     leastAndGreatest();
     aRowsGiven();
+    nothingChanges();
     Check.end();
   }
 
@@ -97,5 +98,16 @@ public final class Promise12Test {
     x.run(3, 1);
     Check.same("missed(3)", -3, x.missed(3));
     Check.same("missed(1)", -4 - 1, x.missed(1));
+  }
+
+  private static void nothingChanges() {
+    Check.sentence(12, "nothing is changed by it");
+    Bench.unchangedBy(x -> {
+      x.missed(1);
+      x.missed(4);
+      x.missed(5);
+      x.missed(-1);
+      x.missed(257);
+    });
   }
 }

@@ -133,17 +133,16 @@ public final class Promise13Test {
 
   private static void nothingChanges() {
     Check.sentence(13, "nothing changes");
-    for (int[] kind : Bench.kinds()) {
-      CoarseSteps x = Bench.busy(kind[0], kind[1], kind[2]);
-      CoarseSteps y = Bench.busy(kind[0], kind[1], kind[2]);
+    Bench.unchangedBy(x -> {
       x.ring(1000000);
       x.ring(-1000000);
       x.ring(2000000);
+    });
+    Bench.sameBehind(x -> x.ring(2), x -> {
+      x.ring(1);
+      x.ring(0);
       x.ring(2);
-      x.ring(2);
-      y.ring(2);
-      Bench.alike("KIND " + kind[0], y, x);
-    }
+    });
   }
 
   private static void allSumsOfARow() {

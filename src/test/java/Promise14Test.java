@@ -7,6 +7,7 @@ public final class Promise14Test {
     ofTheLatest();
     notByARingThatToldNone();
     itOutlivesTheLoop();
+    nothingChanges();
     Check.end();
   }
 
@@ -87,5 +88,10 @@ public final class Promise14Test {
     Check.same("tail() behind loop()", 3, x.tail());
     x.table(0, 0, 1);
     Check.same("tail() behind table()", 3, x.tail());
+  }
+
+  private static void nothingChanges() {
+    Check.sentence(14, "nothing is changed by it");
+    Bench.unchangedBy(x -> x.tail());
   }
 }

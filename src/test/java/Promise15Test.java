@@ -146,13 +146,12 @@ public final class Promise15Test {
 
   private static void nothingChanges() {
     Check.sentence(15, "Nothing changes");
-    for (int[] kind : Bench.kinds()) {
-      CoarseSteps x = Bench.busy(kind[0], kind[1], kind[2]);
+    Bench.unchangedBy(x -> {
       x.leaves(1000000, MOST);
       x.leaves(-1000000, 5);
+      x.leaves(1, 5);
       x.leaves(1, -5);
       x.leaves(1000001, 5);
-      Bench.alike("KIND " + kind[0], Bench.busy(kind[0], kind[1], kind[2]), x);
-    }
+    });
   }
 }

@@ -11,6 +11,7 @@ public final class Promise16Test {
     beyondTheBounds();
     sumsThereAreNot();
     refusedDoesNothing();
+    nothingElseChanges();
     staysWithAsManySums();
     goesWithAnotherNumberOfSums();
     Check.end();
@@ -113,15 +114,13 @@ public final class Promise16Test {
 
   private static void refusedDoesNothing() {
     Check.sentence(16, "false, doing nothing");
-    for (int[] kind : Bench.kinds()) {
-      CoarseSteps x = Bench.busy(kind[0], kind[1], kind[2]);
+    Bench.unchangedBy(x -> {
       x.box(0, 9, 8);
       x.box(-1, 9, 9);
       x.box(x.about(3), 9, 9);
       x.box(0, 9, MOST + 1);
       x.box(0, -MOST - 1, 9);
-      Bench.alike("KIND " + kind[0], Bench.busy(kind[0], kind[1], kind[2]), x);
-    }
+    });
     CoarseSteps x = new CoarseSteps();
     x.box(0, 2, 2);
     x.box(0, 1, 0);
@@ -129,17 +128,19 @@ public final class Promise16Test {
     x.box(0, -MOST - 1, 2);
     Check.same("kept(1, 1): it is 2 to 2 yet", 1, x.kept(1, 1));
     Check.same("kept(0, 0): it is 2 to 2 yet", 0, x.kept(0, 0));
-    taken();
   }
 
-  private static void taken() {
-    for (int[] kind : Bench.kinds()) {
-      CoarseSteps x = Bench.busy(kind[0], kind[1], kind[2]);
-      CoarseSteps y = Bench.busy(kind[0], kind[1], kind[2]);
+  private static void nothingElseChanges() {
+    Check.sentence(16, "The BOX has these ends: nothing else changes");
+    Bench.unchangedBy(x -> {
       x.box(0, -5, 7);
-      x.box(0, 0, 1);
-      Bench.alike("nothing but the BOX changes", y, x);
-    }
+      x.box(0, 1, 1);
+      x.box(0, 0, 3);
+    });
+    Bench.unchangedAtFirstBy(x -> {
+      x.box(0, -5, 7);
+      x.box(0, 0, 0);
+    });
   }
 
   private static void staysWithAsManySums() {

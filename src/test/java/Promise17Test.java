@@ -235,13 +235,12 @@ public final class Promise17Test {
 
   private static void nothingChanges() {
     Check.sentence(17, "nothing is changed by it");
-    for (int[] kind : Bench.kinds()) {
-      CoarseSteps x = Bench.busy(kind[0], kind[1], kind[2]);
+    Bench.unchangedBy(x -> {
+      x.kept(0, 4);
       x.kept(0, 5);
       x.kept(-7, -7);
       x.kept(5, 0);
       x.kept(0, 1000001);
-      Bench.alike("KIND " + kind[0], Bench.busy(kind[0], kind[1], kind[2]), x);
-    }
+    });
   }
 }

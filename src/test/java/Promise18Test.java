@@ -10,6 +10,7 @@ public final class Promise18Test {
     cutLessCut();
     asAFirst();
     whateverStepsThereAre();
+    nothingChanges();
     Check.end();
   }
 
@@ -96,5 +97,16 @@ public final class Promise18Test {
       }
       Check.same("about(5): nothing changes", 2, x.about(5));
     }
+  }
+
+  private static void nothingChanges() {
+    Check.sentence(18, "nothing is changed by it");
+    Bench.unchangedBy(x -> {
+      x.word(3, 1000000);
+      x.word(0, 0);
+      x.word(4, 0);
+      x.word(0, -1);
+      x.word(-1, -1);
+    });
   }
 }

@@ -13,6 +13,7 @@ public final class Promise19Test {
     tooFewAndTooMany();
     soManyAreNotKept();
     belowZero();
+    nothingChanges();
     Check.end();
   }
 
@@ -151,5 +152,16 @@ public final class Promise19Test {
     Check.same("even(2) of -1 1", 0, gave(-1, 1).even(2));
     Check.same("even(4) of -2 -3 -2 -3", 1, gave(-2, -3, -2, -3).even(4));
     Check.same("even(4) of -2 -2 -3 -3", 0, gave(-2, -2, -3, -3).even(4));
+  }
+
+  private static void nothingChanges() {
+    Check.sentence(19, "nothing is changed by it");
+    Bench.unchangedBy(x -> {
+      x.even(1);
+      x.even(4);
+      x.even(2);
+      x.even(5);
+      x.even(0);
+    });
   }
 }

@@ -10,6 +10,7 @@ public final class Promise20Test {
     upTo64();
     refusedDoesNothing();
     itOutlivesTheLoop();
+    nothingElseChanges();
     Check.end();
   }
 
@@ -69,12 +70,10 @@ public final class Promise20Test {
 
   private static void refusedDoesNothing() {
     Check.sentence(20, "NONE, doing nothing");
-    for (int[] kind : Bench.kinds()) {
-      CoarseSteps x = Bench.busy(kind[0], kind[1], kind[2]);
+    Bench.unchangedBy(x -> {
       x.weight(1001);
       x.weight(-1001);
-      Bench.alike("KIND " + kind[0], Bench.busy(kind[0], kind[1], kind[2]), x);
-    }
+    });
     CoarseSteps x = new CoarseSteps();
     x.run(100, 1);
     for (int k = 0; k < 64; k++) {
@@ -96,5 +95,19 @@ public final class Promise20Test {
     Check.same("weight(7) behind steps()", 3, x.weight(7));
     x.loop(3, 2, 0);
     Check.same("weight(8) behind loop()", 4, x.weight(8));
+  }
+
+  private static void nothingElseChanges() {
+    Check.sentence(20, "A weight more of the FILTER: nothing else changes");
+    Bench.unchangedBy(x -> {
+      x.weight(7);
+      x.clear();
+      x.weight(3);
+      x.weight(-5);
+    });
+    Bench.unchangedAtFirstBy(x -> {
+      x.weight(7);
+      x.clear();
+    });
   }
 }

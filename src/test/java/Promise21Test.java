@@ -51,12 +51,10 @@ public final class Promise21Test {
 
   private static void allElseStays() {
     Check.sentence(21, "The FILTER alone");
-    for (int[] kind : Bench.kinds()) {
-      CoarseSteps x = Bench.busy(kind[0], kind[1], kind[2]);
+    Bench.unchangedBy(x -> {
       x.clear();
       x.weight(3);
       x.weight(-5);
-      Bench.alike("KIND " + kind[0], Bench.busy(kind[0], kind[1], kind[2]), x);
-    }
+    });
   }
 }

@@ -10,6 +10,7 @@ public final class Promise22Test {
     beyondWhatIsKept();
     anew();
     aRowsGiven();
+    nothingChanges();
     Check.end();
   }
 
@@ -119,5 +120,10 @@ public final class Promise22Test {
     Check.same("read() of a WHEEL", 400, x.read());
     x.tick(-5);
     Check.same("read() of a WHEEL", -50, x.read());
+  }
+
+  private static void nothingChanges() {
+    Check.sentence(22, "nothing is changed by it");
+    Bench.unchangedBy(x -> x.read());
   }
 }

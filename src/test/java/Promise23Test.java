@@ -244,12 +244,10 @@ public final class Promise23Test {
 
   private static void nothingChanges() {
     Check.sentence(23, "nothing is changed by it");
-    for (int[] kind : Bench.kinds()) {
-      CoarseSteps x = Bench.busy(kind[0], kind[1], kind[2]);
+    Bench.unchangedBy(x -> {
       x.back(1, 0);
       x.back(3, 1);
       x.back(9, 0);
-      Bench.alike("KIND " + kind[0], Bench.busy(kind[0], kind[1], kind[2]), x);
-    }
+    });
   }
 }

@@ -17,6 +17,8 @@ public final class Promise25Test {
     otherKindsHaveNone();
     refusedTicksDoNotTurn();
     anew();
+    nothingChanges();
+    the512thCall();
     Check.end();
   }
 
@@ -221,5 +223,24 @@ public final class Promise25Test {
       x.tick(1);
       partsAre(x, "100", 1, 0, 0);
     }
+  }
+
+  private static void nothingChanges() {
+    Check.sentence(25, "nothing is changed by it");
+    Bench.unchangedBy(x -> {
+      x.part(0, 0);
+      x.part(1, 1);
+      x.part(16, 0);
+      x.part(0, 2);
+    });
+  }
+
+  private static void the512thCall() {
+    Check.sentence(25, "at most 512 calls after it has been made: how often it was by then");
+    CoarseSteps x = wheel(16, 1);
+    for (int k = 1; k <= 508; k++) {
+      x.run(10000, 50);
+    }
+    Check.same("part(15, 1), the 512th call", 5080000, x.part(15, 1));
   }
 }

@@ -7,6 +7,7 @@ public final class Promise26Test {
     behindMany();
     noWheel();
     anew();
+    nothingChanges();
     Check.end();
   }
 
@@ -83,5 +84,10 @@ public final class Promise26Test {
     x.tick(5);
     x.loop(4, 2, 0);
     Check.same("spread() of fewer PARTS", 0, x.spread());
+  }
+
+  private static void nothingChanges() {
+    Check.sentence(26, "nothing is changed by it");
+    Bench.unchangedBy(x -> x.spread());
   }
 }

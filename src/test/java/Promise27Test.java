@@ -9,6 +9,8 @@ public final class Promise27Test {
     handWithout();
     handOfAWheel();
     anotherWhat();
+    nothingChanges();
+    the512thCall();
     Check.end();
   }
 
@@ -111,5 +113,23 @@ public final class Promise27Test {
     for (int what : new int[] {-1, 9, 10, Integer.MAX_VALUE, Integer.MIN_VALUE}) {
       Check.same("about(" + what + ")", Bench.NONE, x.about(what));
     }
+  }
+
+  private static void nothingChanges() {
+    Check.sentence(27, "nothing is changed by it");
+    Bench.unchangedBy(x -> {
+      for (int what = -1; what <= 9; what++) {
+        x.about(what);
+      }
+    });
+  }
+
+  private static void the512thCall() {
+    Check.sentence(27, "at most 512 calls after it has been made: how many TICKS were by then");
+    CoarseSteps x = new CoarseSteps();
+    for (int k = 1; k <= 511; k++) {
+      x.run(10000, 1);
+    }
+    Check.same("about(5), the 512th call", 5110000, x.about(5));
   }
 }

@@ -9,6 +9,7 @@ public final class Promise28Test {
     noneSuch();
     fewerThanBefore();
     leastAndGreatest();
+    nothingChanges();
     Check.end();
   }
 
@@ -63,5 +64,16 @@ public final class Promise28Test {
     CoarseSteps x = Bench.over(10000, -100, 100);
     Check.same("step(0)", -100, x.step(0));
     Check.same("step(1)", 100, x.step(1));
+  }
+
+  private static void nothingChanges() {
+    Check.sentence(28, "nothing is changed by it");
+    Bench.unchangedBy(x -> {
+      x.step(0);
+      x.step(4);
+      x.step(5);
+      x.step(8);
+      x.step(-1);
+    });
   }
 }
