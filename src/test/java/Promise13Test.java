@@ -138,6 +138,11 @@ public final class Promise13Test {
       x.ring(-1000000);
       x.ring(2000000);
     });
+    Bench.unchangedAtFirstBy(x -> {
+      x.ring(1000000);
+      x.ring(-1000000);
+      x.ring(0);
+    });
     Bench.sameBehind(x -> x.ring(2), x -> {
       x.ring(1);
       x.ring(0);
